@@ -360,14 +360,8 @@ public final class JointVenture {
     /** Leaves the own parts of a cost in ownParts and what each partner is charged in portions. */
     private void divideCost(Well well, int amount) {
         division.divide(amount, shares, ownParts);
-        int carried = 0;
-        for (int partner = 0; partner < PARTNERS; partner++) {
-            weights[partner] = shareIfIn(well, partner);
-            if (well.out[partner]) {
-                carried += ownParts[partner];
-            }
-        }
-        division.divide(carried, weights, portions);
+        weighThoseIn(well);
+        division.divide(ownPartsOfThoseOut(well), weights, portions);
         for (int partner = 0; partner < PARTNERS; partner++) {
             if (!well.out[partner]) {
                 portions[partner] += ownParts[partner];
@@ -377,9 +371,7 @@ public final class JointVenture {
 
     private void accountIncome(Well well, int amount) {
         division.divide(amount, shares, ownParts);
-        for (int partner = 0; partner < PARTNERS; partner++) {
-            weights[partner] = shareIfIn(well, partner);
-        }
+        weighThoseIn(well);
         for (int partner = 0; partner < PARTNERS; partner++) {
             int taken = well.takenOf(partner, ownParts[partner]);
             well.toEarn[partner] -= taken;
@@ -395,6 +387,22 @@ public final class JointVenture {
         division.divide(taken, weights, portions);
         for (int partner = 0; partner < PARTNERS; partner++) {
             well.credited[partner] += portions[partner];
+        }
+    }
+
+    private int ownPartsOfThoseOut(Well well) {
+        int sum = 0;
+        for (int partner = 0; partner < PARTNERS; partner++) {
+            if (well.out[partner]) {
+                sum += ownParts[partner];
+            }
+        }
+        return sum;
+    }
+
+    private void weighThoseIn(Well well) {
+        for (int partner = 0; partner < PARTNERS; partner++) {
+            weights[partner] = shareIfIn(well, partner);
         }
     }
 

@@ -14,14 +14,8 @@ public final class AccountsTest {
         aPartnerStaysOutUntilAnIncome();
         weightsFollowWhoIsIn();
         wellsHaveAccountsOfTheirOwn();
+        questionsAboutOneWellLeaveTheOthers();
         Check.end();
-    }
-
-    private static JointVenture withShares(int first, int second, int third, int fourth, int fifth) {
-        JointVenture x = new JointVenture();
-        x.setShares(first, second, third, fourth, fifth);
-        x.addWell();
-        return x;
     }
 
     private static void dueForAll(String what, JointVenture x, int[] charged, int[] credited) {
@@ -32,7 +26,7 @@ public final class AccountsTest {
     }
 
     private static void accountsNeedAWellAndAPartner() {
-        JointVenture x = withShares(5000, 3000, 2000, 0, 0);
+        JointVenture x = Ventures.withShares(5000, 3000, 2000, 0, 0);
         int[][] wrong = {{-1, 0}, {1, 0}, {6, 0}, {0, -1}, {0, 5}, {Integer.MAX_VALUE, 0}, {0, Integer.MIN_VALUE}};
         for (int[] pair : wrong) {
             Check.refused("isIn", Check.INDEX, () -> x.isIn(pair[0], pair[1]));
@@ -45,14 +39,14 @@ public final class AccountsTest {
     }
 
     private static void leftCentsGoToTheGreatestRemainders() {
-        JointVenture x = withShares(3333, 3333, 3334, 0, 0);
+        JointVenture x = Ventures.withShares(3333, 3333, 3334, 0, 0);
         x.cost(0, 100);
         x.income(0, 100);
         dueForAll("100", x, new int[] {33, 33, 34, 0, 0}, new int[] {33, 33, 34, 0, 0});
-        JointVenture y = withShares(1000, 2000, 3000, 4000, 0);
+        JointVenture y = Ventures.withShares(1000, 2000, 3000, 4000, 0);
         y.cost(0, 7);
         dueForAll("7", y, new int[] {1, 1, 2, 3, 0}, new int[5]);
-        JointVenture z = withShares(0, 0, 1, 9999, 0);
+        JointVenture z = Ventures.withShares(0, 0, 1, 9999, 0);
         z.cost(0, 1);
         z.income(0, 10000000);
         dueForAll("1", z, new int[] {0, 0, 0, 1, 0}, new int[] {0, 0, 1000, 9999000, 0});
@@ -60,7 +54,7 @@ public final class AccountsTest {
 
     private static void leftCentsGoToTheLowerNumbersAtFirst() {
         for (int left = 0; left < 5; left++) {
-            JointVenture x = withShares(2000, 2000, 2000, 2000, 2000);
+            JointVenture x = Ventures.withShares(2000, 2000, 2000, 2000, 2000);
             x.cost(0, 5 + left);
             x.income(0, 10 + left);
             for (int partner = 0; partner < 5; partner++) {
@@ -69,26 +63,26 @@ public final class AccountsTest {
                 Check.equal("credited, left " + left, x.credited(0, partner), 2 + cent);
             }
         }
-        JointVenture y = withShares(0, 2500, 2500, 2500, 2500);
+        JointVenture y = Ventures.withShares(0, 2500, 2500, 2500, 2500);
         y.cost(0, 2);
         dueForAll("without share", y, new int[] {0, 1, 1, 0, 0}, new int[5]);
     }
 
     private static void costsAreDividedTwice() {
-        JointVenture x = withShares(5000, 3000, 2000, 0, 0);
+        JointVenture x = Ventures.withShares(5000, 3000, 2000, 0, 0);
         x.elect(0, 1, false);
         x.cost(0, 10001);
         dueForAll("one out", x, new int[] {7144, 0, 2857, 0, 0}, new int[5]);
         Check.equal("to earn", x.toEarn(0, 1), 9000);
         Check.equal("one who is in has nothing to earn", x.toEarn(0, 0), 0);
-        JointVenture y = withShares(2500, 2500, 2500, 2500, 0);
+        JointVenture y = Ventures.withShares(2500, 2500, 2500, 2500, 0);
         y.elect(0, 2, false);
         y.elect(0, 3, false);
         y.cost(0, 6);
         // The own parts are 2, 2, 1 and 1; those who are out have 2 together, 1 for each who is in.
         dueForAll("two out", y, new int[] {3, 3, 0, 0, 0}, new int[5]);
         Check.equal("to earn of 2", y.toEarn(0, 2), 3);
-        JointVenture z = withShares(2000, 2000, 2000, 2000, 2000);
+        JointVenture z = Ventures.withShares(2000, 2000, 2000, 2000, 2000);
         z.elect(0, 3, false);
         z.elect(0, 4, false);
         z.cost(0, 6);
@@ -124,7 +118,7 @@ public final class AccountsTest {
         Check.equal("to earn", x.toEarn(0, 1), 5999400000L);
         Check.equal("charged", x.charged(0, 0), 600000000);
         Check.equal("balance", x.balance(0), -600000000L);
-        JointVenture y = withShares(10000, 0, 0, 0, 0);
+        JointVenture y = Ventures.withShares(10000, 0, 0, 0, 0);
         for (int voucher = 0; voucher < 60; voucher++) {
             y.income(0, 10000000);
         }
@@ -158,7 +152,7 @@ public final class AccountsTest {
     }
 
     private static void whatIsTakenIsDividedForEachPartnerAlone() {
-        JointVenture x = withShares(2500, 2500, 2500, 2500, 0);
+        JointVenture x = Ventures.withShares(2500, 2500, 2500, 2500, 0);
         x.elect(0, 2, false);
         x.elect(0, 3, false);
         x.cost(0, 1000);
@@ -170,7 +164,7 @@ public final class AccountsTest {
     }
 
     private static void oneWithNothingToEarnComesInWithTheFirstIncome() {
-        JointVenture x = withShares(6000, 4000, 0, 0, 0);
+        JointVenture x = Ventures.withShares(6000, 4000, 0, 0, 0);
         x.elect(0, 1, false);
         x.income(0, 10);
         dueForAll("nothing to earn", x, new int[5], new int[] {6, 4, 0, 0, 0});
@@ -181,7 +175,7 @@ public final class AccountsTest {
     }
 
     private static void thoseWhoComeInTakeNothingOfTheSameIncome() {
-        JointVenture x = withShares(9000, 100, 900, 0, 0);
+        JointVenture x = Ventures.withShares(9000, 100, 900, 0, 0);
         x.elect(0, 1, false);
         x.elect(0, 2, false);
         x.cost(0, 10);
@@ -194,7 +188,7 @@ public final class AccountsTest {
         x.income(0, 100000);
         Check.equal("2 is back", x.backAt(0, 2), 2);
         dueForAll("second income", x, new int[] {10, 0, 0, 0, 0}, new int[] {90012, 1000, 8998, 0, 0});
-        JointVenture y = withShares(5000, 1000, 4000, 0, 0);
+        JointVenture y = Ventures.withShares(5000, 1000, 4000, 0, 0);
         y.elect(0, 1, false);
         y.elect(0, 2, false);
         y.cost(0, 1000);
@@ -204,7 +198,7 @@ public final class AccountsTest {
     }
 
     private static void aPartnerStaysOutUntilAnIncome() {
-        JointVenture x = withShares(5000, 5000, 0, 0, 0);
+        JointVenture x = Ventures.withShares(5000, 5000, 0, 0, 0);
         x.addWell();
         x.elect(0, 1, false);
         x.cost(0, 100);
@@ -219,7 +213,7 @@ public final class AccountsTest {
     }
 
     private static void weightsFollowWhoIsIn() {
-        JointVenture x = withShares(3333, 3334, 3333, 0, 0);
+        JointVenture x = Ventures.withShares(3333, 3334, 3333, 0, 0);
         int[] all = {3333, 3334, 3333, 0, 0};
         int[] withoutSecond = {5000, 0, 5000, 0, 0};
         dueWeights("all in", x, all);
@@ -229,7 +223,7 @@ public final class AccountsTest {
         dueWeights("behind a cost", x, withoutSecond);
         x.income(0, 1000);
         dueWeights("back", x, all);
-        JointVenture y = withShares(5000, 3000, 2000, 0, 0);
+        JointVenture y = Ventures.withShares(5000, 3000, 2000, 0, 0);
         y.elect(0, 1, false);
         dueWeights("rounded", y, new int[] {7143, 0, 2857, 0, 0});
         Check.equal("asking changed nothing", y.charged(0, 0), 0);
@@ -242,7 +236,7 @@ public final class AccountsTest {
     }
 
     private static void wellsHaveAccountsOfTheirOwn() {
-        JointVenture x = withShares(5000, 5000, 0, 0, 0);
+        JointVenture x = Ventures.withShares(5000, 5000, 0, 0, 0);
         x.addWell();
         x.elect(0, 1, false);
         x.elect(1, 0, false);
@@ -258,5 +252,19 @@ public final class AccountsTest {
         Check.equal("the rest in 1", x.credited(1, 0), 55);
         Check.equal("back in 1", x.backAt(1, 0), 2);
         Check.equal("out of 0", x.isIn(0, 1), false);
+    }
+
+    private static void questionsAboutOneWellLeaveTheOthers() {
+        JointVenture x = Ventures.withShares(3000, 3000, 4000, 0, 0);
+        x.addWell();
+        x.elect(0, 0, false);
+        x.cost(0, 1000);
+        Check.equal("weight in the other well", x.weight(1, 0), 3000);
+        x.income(0, 100);
+        // 0 is out, so the 30 that are taken go to 1 and 2: 12.86 and 17.14.
+        dueForAll("income of the first well", x, new int[] {0, 429, 571, 0, 0}, new int[] {0, 43, 57, 0, 0});
+        x.cost(0, 1000);
+        x.call(1, 50);
+        dueForAll("behind a call", x, new int[] {0, 858, 1142, 0, 0}, new int[] {0, 43, 57, 0, 0});
     }
 }

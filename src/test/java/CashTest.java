@@ -9,16 +9,10 @@ public final class CashTest {
         callsAreSharedOut();
         sharingOutIsRefused();
         sharesOutAddUp();
+        oneCentIsAPayment();
         cashNeedsACallAndAPartner();
         balancesAddUpAll();
         Check.end();
-    }
-
-    private static JointVenture withShares(int first, int second, int third, int fourth, int fifth) {
-        JointVenture x = new JointVenture();
-        x.setShares(first, second, third, fourth, fifth);
-        x.addWell();
-        return x;
     }
 
     private static void dueAsked(String what, JointVenture x, int call, int[] due) {
@@ -28,7 +22,7 @@ public final class CashTest {
     }
 
     private static void callsAreMade() {
-        JointVenture x = withShares(5000, 3000, 2000, 0, 0);
+        JointVenture x = Ventures.withShares(5000, 3000, 2000, 0, 0);
         for (int number = 0; number < 20; number++) {
             Check.equal("number of the call", x.call(0, 100 + number), number);
         }
@@ -42,7 +36,7 @@ public final class CashTest {
     }
 
     private static void callsAreRefused() {
-        JointVenture x = withShares(5000, 3000, 2000, 0, 0);
+        JointVenture x = Ventures.withShares(5000, 3000, 2000, 0, 0);
         int[] wrongAmounts = {0, -1, 10000001, Integer.MIN_VALUE, Integer.MAX_VALUE};
         for (int amount : wrongAmounts) {
             Check.refused("call for " + amount, x, Check.ARGUMENT, () -> x.call(0, amount));
@@ -56,7 +50,7 @@ public final class CashTest {
     }
 
     private static void callsGoByWeightsOfTheirTime() {
-        JointVenture x = withShares(5000, 3000, 2000, 0, 0);
+        JointVenture x = Ventures.withShares(5000, 3000, 2000, 0, 0);
         x.addWell();
         x.elect(0, 1, false);
         x.call(0, 10000000);
@@ -75,7 +69,7 @@ public final class CashTest {
     }
 
     private static void partnersPay() {
-        JointVenture x = withShares(5000, 3000, 2000, 0, 0);
+        JointVenture x = Ventures.withShares(5000, 3000, 2000, 0, 0);
         x.call(0, 100);
         x.call(0, 10);
         Check.equal("pay", x.pay(0, 1), 30);
@@ -88,7 +82,7 @@ public final class CashTest {
     }
 
     private static void paymentsAreRefused() {
-        JointVenture x = withShares(5000, 3000, 2000, 0, 0);
+        JointVenture x = Ventures.withShares(5000, 3000, 2000, 0, 0);
         x.call(0, 1);
         Check.refused("pay of no call", x, Check.INDEX, () -> x.pay(1, 0));
         Check.refused("pay of the call -1", x, Check.INDEX, () -> x.pay(-1, 0));
@@ -101,7 +95,7 @@ public final class CashTest {
     }
 
     private static void callsAreSharedOut() {
-        JointVenture x = withShares(5000, 3000, 2000, 0, 0);
+        JointVenture x = Ventures.withShares(5000, 3000, 2000, 0, 0);
         x.call(0, 100);
         x.pay(0, 0);
         x.pay(0, 1);
@@ -121,7 +115,7 @@ public final class CashTest {
     }
 
     private static void sharingOutIsRefused() {
-        JointVenture x = withShares(5000, 3000, 2000, 0, 0);
+        JointVenture x = Ventures.withShares(5000, 3000, 2000, 0, 0);
         x.call(0, 100);
         Check.refused("share out no call", x, Check.INDEX, () -> x.shareOut(1));
         Check.refused("share out the call -1", x, Check.INDEX, () -> x.shareOut(-1));
@@ -138,7 +132,7 @@ public final class CashTest {
     }
 
     private static void sharesOutAddUp() {
-        JointVenture x = withShares(2500, 2500, 2500, 2500, 0);
+        JointVenture x = Ventures.withShares(2500, 2500, 2500, 2500, 0);
         x.call(0, 1001);
         x.call(0, 400);
         x.pay(0, 3);
@@ -153,7 +147,7 @@ public final class CashTest {
         Check.equal("2 owes of one", x.owes(2), 250);
         Check.equal("3 owes nothing", x.owes(3), 0);
         Check.equal("pay of the first", x.pay(0, 3), 751);
-        JointVenture y = withShares(1, 4999, 5000, 0, 0);
+        JointVenture y = Ventures.withShares(1, 4999, 5000, 0, 0);
         y.call(0, 10000000);
         y.pay(0, 1);
         y.pay(0, 0);
@@ -161,8 +155,19 @@ public final class CashTest {
         dueAsked("great sums", y, 0, new int[] {2000, 9998000, 0, 0, 0});
     }
 
+    private static void oneCentIsAPayment() {
+        JointVenture x = Ventures.withShares(5000, 3000, 2000, 0, 0);
+        x.call(0, 3);
+        dueAsked("3", x, 0, new int[] {1, 1, 1, 0, 0});
+        x.pay(0, 2);
+        Check.equal("asked anew", x.shareOut(0), 2);
+        dueAsked("shared out", x, 0, new int[] {0, 0, 3, 0, 0});
+        Check.equal("2 owes nothing", x.owes(2), 0);
+        Check.equal("2 pays the rest", x.pay(0, 2), 2);
+    }
+
     private static void cashNeedsACallAndAPartner() {
-        JointVenture x = withShares(5000, 3000, 2000, 0, 0);
+        JointVenture x = Ventures.withShares(5000, 3000, 2000, 0, 0);
         x.call(0, 100);
         int[] wrongCalls = {-1, 1, 20, Integer.MAX_VALUE, Integer.MIN_VALUE};
         for (int number : wrongCalls) {
@@ -178,7 +183,7 @@ public final class CashTest {
     }
 
     private static void balancesAddUpAll() {
-        JointVenture x = withShares(5000, 3000, 2000, 0, 0);
+        JointVenture x = Ventures.withShares(5000, 3000, 2000, 0, 0);
         x.addWell();
         x.cost(0, 100);
         x.cost(1, 1000);

@@ -47,13 +47,15 @@ public final class PartnersAndWellsTest {
         int[] due = {1, 2, 3, 4, 9990};
         for (int partner = 0; partner < 5; partner++) {
             Check.equal("weight of share " + partner, x.weight(0, partner), due[partner]);
+            Check.equal("in with a small share", x.isIn(0, partner), true);
         }
     }
 
     private static void sharesAreRefused() {
         JointVenture x = new JointVenture();
-        Check.refused("first -1", Check.ARGUMENT, () -> x.setShares(-1, 10001, 0, 0, 0));
-        Check.refused("first too great", Check.ARGUMENT, () -> x.setShares(10001, -1, 0, 0, 0));
+        Check.refused("first -1", Check.ARGUMENT, () -> x.setShares(-1, 10000, 1, 0, 0));
+        Check.refused("first 10001", Check.ARGUMENT, () -> x.setShares(10001, -1, 0, 0, 0));
+        Check.refused("second 10001", Check.ARGUMENT, () -> x.setShares(-1, 10001, 0, 0, 0));
         Check.refused("second -1", Check.ARGUMENT, () -> x.setShares(10000, -1, 1, 0, 0));
         Check.refused("third -1", Check.ARGUMENT, () -> x.setShares(10000, 1, -1, 0, 0));
         Check.refused("fourth -1", Check.ARGUMENT, () -> x.setShares(10000, 1, 0, -1, 0));

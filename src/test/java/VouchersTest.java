@@ -10,6 +10,7 @@ public final class VouchersTest {
         movesAreRefused();
         aMovedCostCountsFromTheBeginning();
         aMovedCostTakesThePenaltyOfItsWell();
+        aMoveTakesAWayBackAgain();
         Check.end();
     }
 
@@ -167,5 +168,22 @@ public final class VouchersTest {
         Check.equal("nothing in the old well", x.toEarn(0, 1), 0);
         Check.equal("out of the old well all the same", x.isIn(0, 1), false);
         Check.equal("to earn by 100", x.toEarn(1, 1), 30);
+    }
+
+    private static void aMoveTakesAWayBackAgain() {
+        JointVenture x = withWells(2);
+        x.elect(0, 0, false);
+        x.elect(0, 2, false);
+        x.cost(1, 10000);
+        x.income(0, 100);
+        Check.equal("0 is in", x.isIn(0, 0), true);
+        Check.equal("2 is back", x.backAt(0, 2), 1);
+        x.move(0, 0);
+        Check.equal("0 is out", x.isIn(0, 0), false);
+        Check.equal("2 is out", x.isIn(0, 2), false);
+        Check.equal("2 is not back", x.backAt(0, 2), JointVenture.NONE);
+        Check.equal("0 has to earn", x.toEarn(0, 0), 14950);
+        Check.equal("1 is credited all", x.credited(0, 1), 100);
+        Check.equal("1 is charged all", x.charged(0, 1), 10000);
     }
 }

@@ -1,0 +1,13 @@
+/** Ventures that several tests begin with. */
+final class Ventures {
+    private Ventures() {
+    }
+
+    /** A venture with these shares and one well. */
+    static JointVenture withShares(int first, int second, int third, int fourth, int fifth) {
+        JointVenture x = new JointVenture();
+        x.setShares(first, second, third, fourth, fifth);
+        x.addWell();
+        return x;
+    }
+}
