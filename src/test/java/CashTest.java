@@ -29,9 +29,9 @@ public final class CashTest {
         dueAsked("100", x, 0, new int[] {50, 30, 20, 0, 0});
         dueAsked("101", x, 1, new int[] {51, 30, 20, 0, 0});
         dueAsked("119", x, 19, new int[] {59, 36, 24, 0, 0});
-        Check.refused("a call too many", x, Check.STATE, () -> x.call(0, 1));
-        Check.refused("amount ahead of state", x, Check.ARGUMENT, () -> x.call(0, 0));
-        Check.refused("well ahead of amount", x, Check.INDEX, () -> x.call(1, 0));
+        Check.refused("a call too many", Check.STATE, () -> x.call(0, 1));
+        Check.refused("amount ahead of state", Check.ARGUMENT, () -> x.call(0, 0));
+        Check.refused("well ahead of amount", Check.INDEX, () -> x.call(1, 0));
         Check.equal("a call is no voucher", x.elect(0, 1, false), true);
     }
 
@@ -39,9 +39,9 @@ public final class CashTest {
         JointVenture x = Ventures.withShares(5000, 3000, 2000, 0, 0);
         int[] wrongAmounts = {0, -1, 10000001, Integer.MIN_VALUE, Integer.MAX_VALUE};
         for (int amount : wrongAmounts) {
-            Check.refused("call for " + amount, x, Check.ARGUMENT, () -> x.call(0, amount));
-            Check.refused("call of no well", x, Check.INDEX, () -> x.call(1, amount));
-            Check.refused("call of the well -1", x, Check.INDEX, () -> x.call(-1, amount));
+            Check.refused("call for " + amount, Check.ARGUMENT, () -> x.call(0, amount));
+            Check.refused("call of no well", Check.INDEX, () -> x.call(1, amount));
+            Check.refused("call of the well -1", Check.INDEX, () -> x.call(-1, amount));
         }
         Check.equal("the least call", x.call(0, 1), 0);
         Check.equal("the greatest call", x.call(0, 10000000), 1);
@@ -84,14 +84,14 @@ public final class CashTest {
     private static void paymentsAreRefused() {
         JointVenture x = Ventures.withShares(5000, 3000, 2000, 0, 0);
         x.call(0, 1);
-        Check.refused("pay of no call", x, Check.INDEX, () -> x.pay(1, 0));
-        Check.refused("pay of the call -1", x, Check.INDEX, () -> x.pay(-1, 0));
-        Check.refused("pay of no partner", x, Check.INDEX, () -> x.pay(0, 5));
-        Check.refused("pay of the partner -1", x, Check.INDEX, () -> x.pay(0, -1));
-        Check.refused("nothing asked", x, Check.STATE, () -> x.pay(0, 1));
-        Check.refused("no share", x, Check.STATE, () -> x.pay(0, 3));
+        Check.refused("pay of no call", Check.INDEX, () -> x.pay(1, 0));
+        Check.refused("pay of the call -1", Check.INDEX, () -> x.pay(-1, 0));
+        Check.refused("pay of no partner", Check.INDEX, () -> x.pay(0, 5));
+        Check.refused("pay of the partner -1", Check.INDEX, () -> x.pay(0, -1));
+        Check.refused("nothing asked", Check.STATE, () -> x.pay(0, 1));
+        Check.refused("no share", Check.STATE, () -> x.pay(0, 3));
         x.pay(0, 0);
-        Check.refused("paid already", x, Check.STATE, () -> x.pay(0, 0));
+        Check.refused("paid already", Check.STATE, () -> x.pay(0, 0));
     }
 
     private static void callsAreSharedOut() {
@@ -106,29 +106,29 @@ public final class CashTest {
         Check.equal("0 owes nothing", x.owes(0), 0);
         Check.equal("balance of 2", x.balance(2), -20);
         Check.equal("not paid yet", x.paid(0), 50);
-        Check.refused("2 is not asked any more", x, Check.STATE, () -> x.pay(0, 2));
-        Check.refused("shared out already", x, Check.STATE, () -> x.shareOut(0));
+        Check.refused("2 is not asked any more", Check.STATE, () -> x.pay(0, 2));
+        Check.refused("shared out already", Check.STATE, () -> x.shareOut(0));
         Check.equal("0 pays the rest", x.pay(0, 0), 13);
         Check.equal("0 paid", x.paid(0), 63);
         Check.equal("1 pays the rest", x.pay(0, 1), 7);
-        Check.refused("1 paid all", x, Check.STATE, () -> x.pay(0, 1));
+        Check.refused("1 paid all", Check.STATE, () -> x.pay(0, 1));
     }
 
     private static void sharingOutIsRefused() {
         JointVenture x = Ventures.withShares(5000, 3000, 2000, 0, 0);
         x.call(0, 100);
-        Check.refused("share out no call", x, Check.INDEX, () -> x.shareOut(1));
-        Check.refused("share out the call -1", x, Check.INDEX, () -> x.shareOut(-1));
-        Check.refused("nobody has paid", x, Check.STATE, () -> x.shareOut(0));
+        Check.refused("share out no call", Check.INDEX, () -> x.shareOut(1));
+        Check.refused("share out the call -1", Check.INDEX, () -> x.shareOut(-1));
+        Check.refused("nobody has paid", Check.STATE, () -> x.shareOut(0));
         x.pay(0, 0);
         x.pay(0, 1);
         x.pay(0, 2);
-        Check.refused("all have paid", x, Check.STATE, () -> x.shareOut(0));
+        Check.refused("all have paid", Check.STATE, () -> x.shareOut(0));
         x.call(0, 1);
         x.pay(1, 0);
-        Check.refused("nobody else is asked", x, Check.STATE, () -> x.shareOut(1));
+        Check.refused("nobody else is asked", Check.STATE, () -> x.shareOut(1));
         x.call(0, 50);
-        Check.refused("nobody has paid of this call", x, Check.STATE, () -> x.shareOut(2));
+        Check.refused("nobody has paid of this call", Check.STATE, () -> x.shareOut(2));
     }
 
     private static void sharesOutAddUp() {

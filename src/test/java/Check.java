@@ -1,3 +1,9 @@
+import java.lang.reflect.InvocationTargetException;
+import java.lang.reflect.Method;
+import java.lang.reflect.Modifier;
+import java.util.Arrays;
+import java.util.Comparator;
+
 /** Counts the answers of one test class that are not the ones that are due. */
 final class Check {
     static final Class<IndexOutOfBoundsException> INDEX = IndexOutOfBoundsException.class;
@@ -6,6 +12,8 @@ final class Check {
 
     private static int answers = 0;
     private static int wrong = 0;
+    private static String test = "";
+    private static int wrongOfTest = 0;
 
     private Check() {
     }
@@ -33,14 +41,8 @@ final class Check {
         equal(what, thrownBy(call), due.getName());
     }
 
-    /** The call has to throw exactly this exception, and to change nothing of the venture. */
-    static void refused(String what, JointVenture venture, Class<? extends RuntimeException> due, Runnable call) {
-        String before = stateOf(venture);
-        refused(what, due, call);
-        equal(what + " changed nothing", stateOf(venture), before);
-    }
-
-    private static String thrownBy(Runnable call) {
+    /** The name of what the call throws, or nothing. */
+    static String thrownBy(Runnable call) {
         try {
             call.run();
             return "nothing";
@@ -49,58 +51,44 @@ final class Check {
         }
     }
 
-    /** All that a venture tells without being changed. */
-    static String stateOf(JointVenture venture) {
-        StringBuilder text = new StringBuilder();
-        text.append("vouchers");
-        for (int voucher = 0; voucher < venture.vouchers(); voucher++) {
-            text.append(' ').append(venture.wellOf(voucher)).append(':').append(venture.amountOf(voucher));
-        }
-        for (int well = 0; hasWell(venture, well); well++) {
-            text.append("; well ").append(well);
-            for (int partner = 0; partner < 5; partner++) {
-                text.append(' ').append(venture.isIn(well, partner)).append(',').append(venture.toEarn(well, partner))
-                        .append(',').append(venture.backAt(well, partner))
-                        .append(',').append(venture.charged(well, partner))
-                        .append(',').append(venture.credited(well, partner))
-                        .append(',').append(venture.weight(well, partner));
+    /** Runs each test of a class, that is each method without parameters that is not private, and ends. */
+    static void runAll(Class<?> tests) {
+        Method[] methods = tests.getDeclaredMethods();
+        // The machine names methods in no order of its own; a run has to be the same each time.
+        Arrays.sort(methods, Comparator.comparing(Method::getName));
+        int run = 0;
+        for (Method method : methods) {
+            if (method.getParameterCount() == 0 && !Modifier.isPrivate(method.getModifiers())) {
+                runOne(method);
+                run++;
             }
         }
-        for (int number = 0; hasCall(venture, number); number++) {
-            text.append("; call ").append(number);
-            for (int partner = 0; partner < 5; partner++) {
-                text.append(' ').append(venture.asked(number, partner));
-            }
-        }
-        for (int partner = 0; partner < 5; partner++) {
-            text.append("; partner ").append(partner).append(' ').append(venture.paid(partner))
-                    .append(' ').append(venture.owes(partner)).append(' ').append(venture.balance(partner));
-        }
-        return text.toString();
+        System.out.println(run + " tests");
+        end();
     }
 
-    private static boolean hasWell(JointVenture venture, int well) {
+    private static void runOne(Method method) {
+        test = method.getName() + ": ";
+        wrongOfTest = 0;
+        int before = answers;
         try {
-            venture.isIn(well, 0);
-            return true;
-        } catch (IndexOutOfBoundsException none) {
-            return false;
+            method.invoke(null);
+        } catch (InvocationTargetException thrown) {
+            fail("threw " + thrown.getCause());
+        } catch (IllegalAccessException closed) {
+            fail("can't be run");
         }
-    }
-
-    private static boolean hasCall(JointVenture venture, int number) {
-        try {
-            venture.asked(number, 0);
-            return true;
-        } catch (IndexOutOfBoundsException none) {
-            return false;
+        if (answers == before) {
+            fail("looked at no answer");
         }
+        test = "";
     }
 
     private static void fail(String text) {
         wrong++;
-        if (wrong <= 20) {
-            System.out.println(text);
+        wrongOfTest++;
+        if (wrongOfTest <= 20) {
+            System.out.println(test + text);
         }
     }
 

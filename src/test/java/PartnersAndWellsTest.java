@@ -67,9 +67,9 @@ public final class PartnersAndWellsTest {
                 () -> x.setShares(Integer.MAX_VALUE, Integer.MAX_VALUE, 10002, 0, 0));
         x.addWell();
         Check.equal("shares as before", x.weight(0, 0), 10000);
-        Check.refused("shares with a well", x, Check.STATE, () -> x.setShares(5000, 5000, 0, 0, 0));
-        Check.refused("same shares with a well", x, Check.STATE, () -> x.setShares(10000, 0, 0, 0, 0));
-        Check.refused("argument ahead of state", x, Check.ARGUMENT, () -> x.setShares(5000, 5000, 1, 0, 0));
+        Check.refused("shares with a well", Check.STATE, () -> x.setShares(5000, 5000, 0, 0, 0));
+        Check.refused("same shares with a well", Check.STATE, () -> x.setShares(10000, 0, 0, 0, 0));
+        Check.refused("argument ahead of state", Check.ARGUMENT, () -> x.setShares(5000, 5000, 1, 0, 0));
     }
 
     private static void penaltyIsSet() {
@@ -121,7 +121,7 @@ public final class PartnersAndWellsTest {
             Check.equal("nothing to earn at first", x.toEarn(well, 1), 0);
             Check.equal("not back at first", x.backAt(well, 1), JointVenture.NONE);
         }
-        Check.refused("a seventh well", x, Check.STATE, x::addWell);
+        Check.refused("a seventh well", Check.STATE, x::addWell);
         Check.refused("the well 6", Check.INDEX, () -> x.isIn(6, 0));
     }
 
@@ -145,15 +145,15 @@ public final class PartnersAndWellsTest {
         JointVenture x = new JointVenture();
         x.setShares(4000, 3000, 0, 0, 3000);
         x.addWell();
-        Check.refused("elect well 1", x, Check.INDEX, () -> x.elect(1, 0, false));
-        Check.refused("elect well -1", x, Check.INDEX, () -> x.elect(-1, 0, false));
-        Check.refused("elect partner 5", x, Check.INDEX, () -> x.elect(0, 5, false));
-        Check.refused("elect partner -1", x, Check.INDEX, () -> x.elect(0, -1, true));
-        Check.refused("elect out without share", x, Check.STATE, () -> x.elect(0, 2, false));
-        Check.refused("elect in without share", x, Check.STATE, () -> x.elect(0, 3, true));
+        Check.refused("elect well 1", Check.INDEX, () -> x.elect(1, 0, false));
+        Check.refused("elect well -1", Check.INDEX, () -> x.elect(-1, 0, false));
+        Check.refused("elect partner 5", Check.INDEX, () -> x.elect(0, 5, false));
+        Check.refused("elect partner -1", Check.INDEX, () -> x.elect(0, -1, true));
+        Check.refused("elect out without share", Check.STATE, () -> x.elect(0, 2, false));
+        Check.refused("elect in without share", Check.STATE, () -> x.elect(0, 3, true));
         x.elect(0, 0, false);
         x.elect(0, 4, false);
-        Check.refused("nobody would be in", x, Check.STATE, () -> x.elect(0, 1, false));
+        Check.refused("nobody would be in", Check.STATE, () -> x.elect(0, 1, false));
         Check.equal("the last one stays in", x.elect(0, 1, true), true);
         Check.equal("one who is out stays out", x.elect(0, 4, false), false);
         x.elect(0, 4, true);
@@ -167,18 +167,18 @@ public final class PartnersAndWellsTest {
             x.addWell();
         }
         x.cost(0, 100);
-        Check.refused("elect behind a cost", x, Check.STATE, () -> x.elect(0, 1, false));
-        Check.refused("same election behind a cost", x, Check.STATE, () -> x.elect(0, 1, true));
-        Check.refused("index ahead of state", x, Check.INDEX, () -> x.elect(0, 5, true));
+        Check.refused("elect behind a cost", Check.STATE, () -> x.elect(0, 1, false));
+        Check.refused("same election behind a cost", Check.STATE, () -> x.elect(0, 1, true));
+        Check.refused("index ahead of state", Check.INDEX, () -> x.elect(0, 5, true));
         Check.equal("the other well is free", x.elect(1, 1, false), true);
         x.move(0, 1);
-        Check.refused("the well had a voucher", x, Check.STATE, () -> x.elect(0, 1, false));
-        Check.refused("the well has a moved voucher", x, Check.STATE, () -> x.elect(1, 1, true));
+        Check.refused("the well had a voucher", Check.STATE, () -> x.elect(0, 1, false));
+        Check.refused("the well has a moved voucher", Check.STATE, () -> x.elect(1, 1, true));
         x.move(0, 2);
-        Check.refused("the well had a moved voucher", x, Check.STATE, () -> x.elect(1, 1, true));
+        Check.refused("the well had a moved voucher", Check.STATE, () -> x.elect(1, 1, true));
         x.move(0, 0);
-        Check.refused("the well 2 had one too", x, Check.STATE, () -> x.elect(2, 1, false));
+        Check.refused("the well 2 had one too", Check.STATE, () -> x.elect(2, 1, false));
         x.income(3, 1);
-        Check.refused("elect behind an income", x, Check.STATE, () -> x.elect(3, 1, false));
+        Check.refused("elect behind an income", Check.STATE, () -> x.elect(3, 1, false));
     }
 }

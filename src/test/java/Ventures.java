@@ -10,4 +10,11 @@ final class Ventures {
         x.addWell();
         return x;
     }
+
+    /** A venture with the first shares and one well. */
+    static JointVenture withOneWell() {
+        JointVenture x = new JointVenture();
+        x.addWell();
+        return x;
+    }
 }

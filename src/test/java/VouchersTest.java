@@ -46,13 +46,13 @@ public final class VouchersTest {
         JointVenture x = withWells(2);
         int[] wrongWells = {-1, 2, 6, Integer.MAX_VALUE, Integer.MIN_VALUE};
         for (int well : wrongWells) {
-            Check.refused("cost of well " + well, x, Check.INDEX, () -> x.cost(well, 0));
-            Check.refused("income of well " + well, x, Check.INDEX, () -> x.income(well, 0));
+            Check.refused("cost of well " + well, Check.INDEX, () -> x.cost(well, 0));
+            Check.refused("income of well " + well, Check.INDEX, () -> x.income(well, 0));
         }
         int[] wrongAmounts = {0, -1, 10000001, Integer.MAX_VALUE, Integer.MIN_VALUE};
         for (int amount : wrongAmounts) {
-            Check.refused("cost " + amount, x, Check.ARGUMENT, () -> x.cost(0, amount));
-            Check.refused("income " + amount, x, Check.ARGUMENT, () -> x.income(0, amount));
+            Check.refused("cost " + amount, Check.ARGUMENT, () -> x.cost(0, amount));
+            Check.refused("income " + amount, Check.ARGUMENT, () -> x.income(0, amount));
         }
         Check.equal("no voucher came", x.vouchers(), 0);
         Check.equal("a refused cost is no voucher of the well", x.elect(0, 1, false), true);
@@ -72,13 +72,13 @@ public final class VouchersTest {
 
     private static void overheadsAreRefused() {
         JointVenture x = withWells(1);
-        Check.refused("overhead 0", x, Check.STATE, () -> x.overhead(0, 1));
-        Check.refused("months ahead of overhead 0", x, Check.ARGUMENT, () -> x.overhead(0, 0));
-        Check.refused("well ahead of months", x, Check.INDEX, () -> x.overhead(1, 25));
+        Check.refused("overhead 0", Check.STATE, () -> x.overhead(0, 1));
+        Check.refused("months ahead of overhead 0", Check.ARGUMENT, () -> x.overhead(0, 0));
+        Check.refused("well ahead of months", Check.INDEX, () -> x.overhead(1, 25));
         x.setOverhead(10);
-        Check.refused("0 months", x, Check.ARGUMENT, () -> x.overhead(0, 0));
-        Check.refused("25 months", x, Check.ARGUMENT, () -> x.overhead(0, 25));
-        Check.refused("well -1", x, Check.INDEX, () -> x.overhead(-1, 1));
+        Check.refused("0 months", Check.ARGUMENT, () -> x.overhead(0, 0));
+        Check.refused("25 months", Check.ARGUMENT, () -> x.overhead(0, 25));
+        Check.refused("well -1", Check.INDEX, () -> x.overhead(-1, 1));
     }
 
     private static void thereAreSixtyVouchers() {
@@ -89,13 +89,13 @@ public final class VouchersTest {
             Check.equal("number of the voucher", number, voucher);
         }
         Check.equal("60 vouchers", x.vouchers(), 60);
-        Check.refused("cost behind 60", x, Check.STATE, () -> x.cost(1, 1));
-        Check.refused("income behind 60", x, Check.STATE, () -> x.income(1, 1));
-        Check.refused("overhead behind 60", x, Check.STATE, () -> x.overhead(1, 1));
-        Check.refused("amount ahead of state", x, Check.ARGUMENT, () -> x.cost(0, 0));
-        Check.refused("amount ahead of state", x, Check.ARGUMENT, () -> x.income(0, 0));
-        Check.refused("months ahead of state", x, Check.ARGUMENT, () -> x.overhead(0, 0));
-        Check.refused("well ahead of state", x, Check.INDEX, () -> x.income(2, 1));
+        Check.refused("cost behind 60", Check.STATE, () -> x.cost(1, 1));
+        Check.refused("income behind 60", Check.STATE, () -> x.income(1, 1));
+        Check.refused("overhead behind 60", Check.STATE, () -> x.overhead(1, 1));
+        Check.refused("amount ahead of state", Check.ARGUMENT, () -> x.cost(0, 0));
+        Check.refused("amount ahead of state", Check.ARGUMENT, () -> x.income(0, 0));
+        Check.refused("months ahead of state", Check.ARGUMENT, () -> x.overhead(0, 0));
+        Check.refused("well ahead of state", Check.INDEX, () -> x.income(2, 1));
         Check.equal("the last voucher can be moved", x.move(59, 1), 0);
         Check.equal("a refused cost left the well free", x.wellOf(59), 1);
     }
@@ -120,13 +120,13 @@ public final class VouchersTest {
         JointVenture x = withWells(2);
         x.cost(0, 100);
         x.income(0, 100);
-        Check.refused("move -1", x, Check.INDEX, () -> x.move(-1, 0));
-        Check.refused("move 2", x, Check.INDEX, () -> x.move(2, 0));
-        Check.refused("move to well -1", x, Check.INDEX, () -> x.move(0, -1));
-        Check.refused("move to well 2", x, Check.INDEX, () -> x.move(0, 2));
-        Check.refused("index ahead of income", x, Check.INDEX, () -> x.move(1, 2));
-        Check.refused("move an income", x, Check.STATE, () -> x.move(1, 1));
-        Check.refused("leave an income", x, Check.STATE, () -> x.move(1, 0));
+        Check.refused("move -1", Check.INDEX, () -> x.move(-1, 0));
+        Check.refused("move 2", Check.INDEX, () -> x.move(2, 0));
+        Check.refused("move to well -1", Check.INDEX, () -> x.move(0, -1));
+        Check.refused("move to well 2", Check.INDEX, () -> x.move(0, 2));
+        Check.refused("index ahead of income", Check.INDEX, () -> x.move(1, 2));
+        Check.refused("move an income", Check.STATE, () -> x.move(1, 1));
+        Check.refused("leave an income", Check.STATE, () -> x.move(1, 0));
         Check.equal("a refused move left the well free", x.elect(1, 0, false), true);
     }
 
