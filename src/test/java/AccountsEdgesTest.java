@@ -378,8 +378,7 @@ public final class AccountsEdgesTest {
 
     static void askingChangesNothing() {
         for (int part = 0; part < State.PARTS; part++) {
-            // The last part is no question: it tries what comes next.
-            for (int question = 0; question < State.PARTS - 1; question++) {
+            for (int question = 0; question < State.QUESTIONS; question++) {
                 JointVenture x = Stage.LIVED.make();
                 State.part(question, x);
                 Check.equal("all as before", State.part(part, x), State.part(part, Stage.LIVED.make()));

@@ -164,6 +164,16 @@ public final class CashEdgesTest {
         dueAsked(x, 1, 5, 5, 0, 0, 0);
     }
 
+    static void whatIsAskedStaysBehindAnElection() {
+        JointVenture x = withCall(100);
+        x.elect(0, 4, false);
+        dueAsked(x, 0, 20, 20, 20, 20, 20);
+        x.call(0, 100);
+        dueAsked(x, 1, 25, 25, 25, 25, 0);
+        x.elect(0, 4, true);
+        dueAsked(x, 1, 25, 25, 25, 25, 0);
+    }
+
     // ---- promise 21: pay
 
     static void aPaymentOfNoCallIsRefused() {
@@ -547,6 +557,19 @@ public final class CashEdgesTest {
         JointVenture x = withPaid(0);
         x.shareOut(0);
         x.pay(0, 0);
+        dueOwed(x, 0, 20, 20, 20, 20);
+    }
+
+    static void whatIsOwedStaysWhateverFollows() {
+        JointVenture x = withPaid(0);
+        x.shareOut(0);
+        x.call(0, 50);
+        dueOwed(x, 0, 20, 20, 20, 20);
+        x.pay(1, 1);
+        dueOwed(x, 0, 20, 20, 20, 20);
+        x.cost(0, 100);
+        x.income(0, 100000);
+        x.move(0, 0);
         dueOwed(x, 0, 20, 20, 20, 20);
     }
 

@@ -269,7 +269,9 @@ public final class PartnersAndWellsEdgesTest {
     }
 
     static void thePenaltyIsTakenWithSixWells() {
-        Check.equal("the last well's", Stage.FULL.make().setPenalty(100), 1000);
+        JointVenture x = Stage.FULL.make();
+        Check.equal("before 100", x.setPenalty(100), 700);
+        Check.equal("before 101", x.setPenalty(101), 100);
     }
 
     // ---- promise 4: setOverhead
@@ -359,6 +361,8 @@ public final class PartnersAndWellsEdgesTest {
             Check.equal("nothing credited", x.credited(3, partner), 0);
             Check.equal("nothing to earn", x.toEarn(3, partner), 0);
         }
+        Check.equal("its partners can elect", x.elect(3, 1, false), true);
+        Check.equal("one is out", x.isIn(3, 1), false);
     }
 
     static void atFirstAllWithAShareAreIn() {
@@ -505,6 +509,7 @@ public final class PartnersAndWellsEdgesTest {
             Supplier<JointVenture> setUp = () -> {
                 JointVenture x = withSharesAlone(shares);
                 x.addWell();
+                x.elect(0, (without + 1) % 5, false);
                 return x;
             };
             Refusals.refused("out", setUp, Check.STATE, x -> x.elect(0, without, false));

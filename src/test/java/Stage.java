@@ -48,6 +48,8 @@ enum Stage {
         x.call(0, 999);
         x.pay(2, 0);
         x.shareOut(2);
+        // No well has this one, so that it is seen when a well takes it.
+        x.setPenalty(700);
         return x;
     }
 
@@ -79,6 +81,7 @@ enum Stage {
         for (int call = 0; call < 4; call++) {
             x.shareOut(call);
         }
+        x.setPenalty(700);
         return x;
     }
 

@@ -2,10 +2,12 @@ import java.util.function.Supplier;
 
 /**
  * All that a venture tells, in parts: a venture that is asked for one part alone answers far fewer than the
- * 512 calls that it is made for. The venture is of no use behind that, as the last part tries what comes next.
+ * 512 calls that it is made for. The first parts are questions; the others try what follows, so the venture
+ * is of no use behind them. They tell what no question does: penalties, elections, and what is still taken.
  */
 final class State {
-    static final int PARTS = 4;
+    static final int QUESTIONS = 3;
+    static final int PARTS = 5;
 
     private final JointVenture venture;
     private final StringBuilder text = new StringBuilder();
@@ -20,6 +22,7 @@ final class State {
             case 0: state.tellVouchers(); break;
             case 1: state.tellAccounts(); break;
             case 2: state.tellCash(); break;
+            case 3: state.tellWhatVouchersDo(); break;
             default: state.tellWhatComesNext();
         }
         return state.text.toString();
@@ -71,6 +74,22 @@ final class State {
             tell("paid by " + partner, () -> venture.paid(partner));
             tell("owed", () -> venture.owes(partner));
             tell("balance", () -> venture.balance(partner));
+        }
+    }
+
+    private void tellWhatVouchersDo() {
+        for (int number = 0; number < 6; number++) {
+            int well = number;
+            tell("cost of " + well, () -> venture.cost(well, 10000));
+            tell("move to it", () -> venture.move(0, well));
+            tell("income", () -> venture.income(well, 10));
+            for (int one = 0; one < 5; one++) {
+                int partner = one;
+                tell("in is " + partner, () -> venture.isIn(well, partner));
+                tell("to earn", () -> venture.toEarn(well, partner));
+                tell("charged", () -> venture.charged(well, partner));
+                tell("credited", () -> venture.credited(well, partner));
+            }
         }
     }
 

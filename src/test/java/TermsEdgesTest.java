@@ -391,6 +391,17 @@ public final class TermsEdgesTest {
         Check.equal("no weight", x.weight(0, 1), 0);
     }
 
+    static void nobodyComesInByAMoveToTheWell() {
+        JointVenture x = withOneOut(100);
+        x.cost(1, 1);
+        x.move(0, 0);
+        Check.equal("the own part is 0", x.toEarn(0, 1), 0);
+        Check.equal("out", x.isIn(0, 1), false);
+        Check.equal("not back", x.backAt(0, 1), JointVenture.NONE);
+        x.move(0, 0);
+        Check.equal("out when it is left there", x.isIn(0, 1), false);
+    }
+
     static void nobodyComesInByCash() {
         JointVenture x = withOneOut(100);
         x.call(0, 100);

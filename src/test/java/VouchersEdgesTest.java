@@ -312,7 +312,7 @@ public final class VouchersEdgesTest {
 
     static void aCostMovedThereAndBackCountsAsBefore() {
         // What comes next is not as before, as the well 1 had a voucher now.
-        for (int part = 0; part < State.PARTS - 1; part++) {
+        for (int part = 0; part < State.QUESTIONS; part++) {
             JointVenture x = withCostAndIncome();
             Check.equal("there", x.move(0, 1), 0);
             Check.equal("back", x.move(0, 0), 1);
